@@ -66,6 +66,7 @@ public final class PromiseTest {
         }
         due("1 drip", x.drip(0), 0);
         due("1 song", x.song(0), 0);
+        due("1 song", x.song(1), NONE);
         due("1 lot", x.lot(1), 1);
         due("1 trace", x.trace(), 0);
         due("1 deal", x.deal(), STATE);
@@ -153,6 +154,12 @@ public final class PromiseTest {
         reads("terrace  ", -19);
         reads("terrac 1 1 1;", -10);
         reads("terraces 1 1 1;", -10);
+        reads("berrace 1 1 1;", -10);
+        reads("trip 1 1;", -10);
+        reads("saw 1;", -10);
+        reads("flip 1;", -10);
+        reads("terrace 1 1 1;long 0;", -24);
+        reads("buzz 1;", -10);
         reads("Terrace 1 1 1;", -10);
         reads("terracE 1 1 1;", -10);
         reads("terrace 31 0 0;", -18);
@@ -480,6 +487,8 @@ public final class PromiseTest {
         gots(x, 2, 0, 1, 13, 25);
         gots(x, 2, 0, 0, 6, 25);
         gots(x, 2, 0, 3, 0, 1);
+        gots(x, 2, 0, -1, 0, 1);
+        gots(x, 12, 0, Integer.MAX_VALUE, 0, 1);
         x.deal();
         gots(x, 1, 0, 1, 2, 5);
         gots(x, 1, 2, 1, 3, 5);
@@ -513,6 +522,7 @@ public final class PromiseTest {
         tries(x, 2, 2, 1, 0, 2, -5);
         tries(x, 3, 3, 0, 0, 0, 2);
         tries(x, 3, 9, 18, 0, 0, 0);
+        tries(Dues.told("terrace 1 9 0;drip 4 1;"), 3, 2, 13, 0, 0, 0);
         x.give(1, 1);
         tries(x, 1, 1, 1, 0, -5, -5);
         tries(x, 2, 1, 1, 0, 0, -5);
