@@ -487,7 +487,6 @@ public final class PromiseTest {
         gots(x, 2, 0, 1, 13, 25);
         gots(x, 2, 0, 0, 6, 25);
         gots(x, 2, 0, 3, 0, 1);
-        gots(x, 2, 0, -1, 0, 1);
         gots(x, 12, 0, Integer.MAX_VALUE, 0, 1);
         x.deal();
         gots(x, 1, 0, 1, 2, 5);
@@ -505,6 +504,9 @@ public final class PromiseTest {
         due("17 no such terrace", x.got(1, -1, 0, 0), BAD);
         due("17 no such number", x.got(1, 0, 0, 2), BAD);
         due("17 no such number", x.got(1, 0, 0, -1), BAD);
+        due("17 fewer than none", x.got(1, 0, -1, 0), BAD);
+        due("17 fewer than none, lower", x.got(12, 0, -1, 1), BAD);
+        due("17 fewest of all", x.got(12, 2, Integer.MIN_VALUE, 0), BAD);
         due("17 nothing is changed", x.now(4), 1);
     }
 
