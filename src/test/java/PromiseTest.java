@@ -486,8 +486,6 @@ public final class PromiseTest {
         gots(x, 2, 0, 2, 6, 25);
         gots(x, 2, 0, 1, 13, 25);
         gots(x, 2, 0, 0, 6, 25);
-        gots(x, 2, 0, 3, 0, 1);
-        gots(x, 12, 0, Integer.MAX_VALUE, 0, 1);
         x.deal();
         gots(x, 1, 0, 1, 2, 5);
         gots(x, 1, 2, 1, 3, 5);
@@ -507,6 +505,12 @@ public final class PromiseTest {
         due("17 fewer than none", x.got(1, 0, -1, 0), BAD);
         due("17 fewer than none, lower", x.got(12, 0, -1, 1), BAD);
         due("17 fewest of all", x.got(12, 2, Integer.MIN_VALUE, 0), BAD);
+        for (int n = 1; n <= 12; n++) {
+            gots(sure, n, 1, n, 1, 1);
+            gots(x, n, 0, n + 1, BAD, BAD);
+        }
+        gots(x, 1, 0, 64, BAD, BAD);
+        gots(x, 12, 2, Integer.MAX_VALUE, BAD, BAD);
         due("17 nothing is changed", x.now(4), 1);
     }
 
