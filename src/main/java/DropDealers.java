@@ -193,7 +193,8 @@ public final class DropDealers {
     }
 
     public long got(int n, int t, int k, int what) {
-        if (n < 1 || n > MOST_GOT || !told.has(t) || k < 0 || k > n || what < 0 || what > 1) {
+        // k is bound by what n may be, not by n: more than all that fall is got by odds of 0.
+        if (n < 1 || n > MOST_GOT || !told.has(t) || k < 0 || k > MOST_GOT || what < 0 || what > 1) {
             return BAD;
         }
         long ways = odds.waysToGet(told, present.turn, n, t, k);

@@ -158,7 +158,7 @@ public final class ModelTest {
                 break;
             case 3:
                 int n = from(1, 12);
-                int just = from(-2, 13);
+                int just = from(-2, 15);
                 int what = from(0, 1);
                 String got = "got(" + n + "," + t + "," + just + "," + what + ")";
                 same(got, real.got(n, t, just, what), model.got(n, t, just, what));

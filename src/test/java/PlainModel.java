@@ -477,7 +477,7 @@ final class PlainModel {
     }
 
     long got(int n, int t, int k, int what) {
-        if (n < 1 || n > 12 || !has(t) || k < 0 || k > n || what < 0 || what > 1) {
+        if (n < 1 || n > 12 || !has(t) || k < 0 || k > 12 || what < 0 || what > 1) {
             return BAD;
         }
         long upper = 0;

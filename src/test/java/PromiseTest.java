@@ -507,7 +507,11 @@ public final class PromiseTest {
         due("17 fewest of all", x.got(12, 2, Integer.MIN_VALUE, 0), BAD);
         for (int n = 1; n <= 12; n++) {
             gots(sure, n, 1, n, 1, 1);
-            gots(x, n, 0, n + 1, BAD, BAD);
+            for (int k = n + 1; k <= 12; k++) {
+                gots(sure, n, 1, k, 0, 1);
+                gots(x, n, 0, k, 0, 1);
+            }
+            gots(x, n, 0, 13, BAD, BAD);
         }
         gots(x, 1, 0, 64, BAD, BAD);
         gots(x, 12, 2, Integer.MAX_VALUE, BAD, BAD);
