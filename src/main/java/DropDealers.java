@@ -182,11 +182,12 @@ public final class DropDealers {
         if (t != -1 && !told.has(t)) {
             return BAD;
         }
-        if (told.terraces < 1) {
-            return NONE;
-        }
+        // NONE is an answer, so what refuses the call goes ahead of it.
         if (present.left > MOST_TODAY) {
             return STATE;
+        }
+        if (told.terraces < 1) {
+            return NONE;
         }
         int lack = foresight.from(told, present).shareOut();
         return t == -1 ? lack : foresight.share[t];

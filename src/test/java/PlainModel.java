@@ -446,11 +446,11 @@ final class PlainModel {
         if (t < -1 || t >= terraces()) {
             return BAD;
         }
-        if (terraces() == 0) {
-            return NONE;
-        }
         if (now.left > 12) {
             return STATE;
+        }
+        if (terraces() == 0) {
+            return NONE;
         }
         int bestLack = Integer.MAX_VALUE;
         int bestWater = -1;

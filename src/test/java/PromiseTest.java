@@ -471,6 +471,24 @@ public final class PromiseTest {
         x.deal();
         due("16 not too many", x.today(0), 12);
         due("16 no terraces, no such terrace", new DropDealers().today(0), BAD);
+        todayWithoutTerraces();
+    }
+
+    private static void todayWithoutTerraces() {
+        due("16 nothing told", new DropDealers().today(-1), NONE);
+        todays("drip 0 1;", NONE, BAD);
+        todays("drip 12 1;", NONE, BAD);
+        todays("drip 13 1;", STATE, BAD);
+        todays("drip 30 1;", STATE, BAD);
+        DropDealers x = Dues.told("drip 13 1;drip 12 1;drip 13 1;");
+        due("16 BAD goes ahead of STATE without terraces", x.today(-2), BAD);
+        due("16 the first day", x.today(-1), STATE);
+        x.end();
+        due("16 the second day", x.today(-1), NONE);
+        x.end();
+        due("16 the third day", x.today(-1), STATE);
+        x.end();
+        due("16 behind the days told", x.today(-1), NONE);
     }
 
     private static void gots(DropDealers x, int n, int t, int k, long upper, long lower) {
