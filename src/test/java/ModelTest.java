@@ -4,8 +4,9 @@ import java.util.Random;
 
 /** Long runs of calls, wrong ones too, each answered by the class and by the plain model as well. */
 public final class ModelTest {
-    private static final int RUNS = 400;
-    private static final int CALLS = 500;
+    private static final int RUNS = 500;
+    // Of an object's 512: a text told or a look at all may still begin with the last of these.
+    private static final int CALLS = 400;
     private static final Dues DUES = new Dues("ModelTest");
 
     private final Random random;
