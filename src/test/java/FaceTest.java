@@ -40,11 +40,9 @@ public final class FaceTest {
         DUES.holds("public and final", face.getModifiers() == (Modifier.PUBLIC | Modifier.FINAL));
         TreeSet<String> methods = new TreeSet<>();
         TreeSet<String> names = new TreeSet<>();
-        for (Method method : face.getMethods()) {
-            if (method.getDeclaringClass() == face) {
-                methods.add(told(method));
-                names.add(method.getName());
-            }
+        for (Method method : methods()) {
+            methods.add(told(method));
+            names.add(method.getName());
         }
         DUES.holds("the methods are the document's: " + methods, methods.equals(new TreeSet<>(Arrays.asList(FACE))));
         for (Method method : face.getDeclaredMethods()) {
@@ -66,7 +64,20 @@ public final class FaceTest {
             && Modifier.isPublic(made[0].getModifiers()));
     }
 
-    private static String told(Method method) {
+    /** The public methods of the class, by their names. */
+    static List<Method> methods() {
+        List<Method> all = new ArrayList<>();
+        for (Method method : DropDealers.class.getMethods()) {
+            if (method.getDeclaringClass() == DropDealers.class) {
+                all.add(method);
+            }
+        }
+        all.sort((one, other) -> one.getName().compareTo(other.getName()));
+        return all;
+    }
+
+    /** A method as FACE has it: no names of parameters, no blanks between them. */
+    static String told(Method method) {
         StringBuilder text = new StringBuilder(method.getReturnType() + " " + method.getName() + "(");
         for (Class<?> type : method.getParameterTypes()) {
             text.append(text.charAt(text.length() - 1) == '(' ? "" : ",").append(type);
@@ -123,13 +134,7 @@ public final class FaceTest {
     };
 
     private static void neverThrows() throws Exception {
-        List<Method> methods = new ArrayList<>();
-        for (Method method : DropDealers.class.getMethods()) {
-            if (method.getDeclaringClass() == DropDealers.class) {
-                methods.add(method);
-            }
-        }
-        methods.sort((one, other) -> one.getName().compareTo(other.getName()));
+        List<Method> methods = methods();
         for (int seed = 0; seed < 300; seed++) {
             Random random = new Random(seed);
             DropDealers x = new DropDealers();
