@@ -479,14 +479,10 @@ public final class DropDealers {
     /** The text, and the reading of it token by token. */
     private static final class Reader {
         private static final int END = 0;
-        private static final int NUMBER = 1;
-        private static final int SEMICOLON = 2;
-        private static final int WRONG = 3;
-        private static final int WORD_TERRACE = 4;
-        private static final int WORD_DRIP = 5;
-        private static final int WORD_LAW = 6;
-        private static final int WORD_SLIP = 7;
-        private static final int WORD_SONG = 8;
+        private static final int WORD = 1;
+        private static final int NUMBER = 2;
+        private static final int SEMICOLON = 3;
+        private static final int WRONG = 4;
         private static final int MOST_NUMBER = 99;
 
         private final byte[] bytes = new byte[MOST_BYTES];
@@ -539,14 +535,35 @@ public final class DropDealers {
 
         // Where a reading of an item answers false, the token at hand is the fault.
         private boolean readItem(Hill into) {
-            switch (token) {
-                case WORD_TERRACE: return readTerrace(into);
-                case WORD_DRIP: return readDrip(into);
-                case WORD_LAW: return readLaw(into);
-                case WORD_SLIP: return readSlip(into);
-                case WORD_SONG: return readSong(into);
-                default: return false;
+            if (token != WORD) {
+                return false;
             }
+            if (isWord("terrace")) {
+                return readTerrace(into);
+            }
+            if (isWord("drip")) {
+                return readDrip(into);
+            }
+            if (isWord("law")) {
+                return readLaw(into);
+            }
+            if (isWord("slip")) {
+                return readSlip(into);
+            }
+            return isWord("song") && readSong(into);
+        }
+
+        // The token at hand reaches from start to place.
+        private boolean isWord(String word) {
+            if (place - start != word.length()) {
+                return false;
+            }
+            for (int i = 0; i < word.length(); i++) {
+                if (bytes[start + i] != word.charAt(i)) {
+                    return false;
+                }
+            }
+            return true;
         }
 
         private boolean readTerrace(Hill into) {
@@ -670,31 +687,7 @@ public final class DropDealers {
             while (place < length && isLetter(place)) {
                 place++;
             }
-            if (isWord("terrace")) {
-                return WORD_TERRACE;
-            }
-            if (isWord("drip")) {
-                return WORD_DRIP;
-            }
-            if (isWord("law")) {
-                return WORD_LAW;
-            }
-            if (isWord("slip")) {
-                return WORD_SLIP;
-            }
-            return isWord("song") ? WORD_SONG : WRONG;
-        }
-
-        private boolean isWord(String word) {
-            if (place - start != word.length()) {
-                return false;
-            }
-            for (int i = 0; i < word.length(); i++) {
-                if (bytes[start + i] != word.charAt(i)) {
-                    return false;
-                }
-            }
-            return true;
+            return WORD;
         }
 
         private int numberAtPlace() {
