@@ -1,209 +1,228 @@
+import com.sun.source.tree.BinaryTree;
+import com.sun.source.tree.CompilationUnitTree;
+import com.sun.source.tree.ForLoopTree;
+import com.sun.source.tree.MemberSelectTree;
+import com.sun.source.tree.MethodInvocationTree;
+import com.sun.source.tree.MethodTree;
+import com.sun.source.tree.NewArrayTree;
+import com.sun.source.tree.NewClassTree;
+import com.sun.source.tree.Tree;
+import com.sun.source.tree.Tree.Kind;
+import com.sun.source.tree.TypeCastTree;
+import com.sun.source.tree.WhileLoopTree;
+import com.sun.source.util.JavacTask;
+import com.sun.source.util.TreePath;
+import com.sun.source.util.TreePathScanner;
+import com.sun.source.util.Trees;
 import java.io.File;
-import java.io.PrintWriter;
-import java.io.StringWriter;
+import java.io.IOException;
 import java.util.ArrayList;
 import java.util.LinkedHashMap;
+import java.util.LinkedHashSet;
 import java.util.List;
 import java.util.Map;
 import java.util.Set;
-import java.util.TreeMap;
-import java.util.TreeSet;
-import java.util.regex.Matcher;
-import java.util.regex.Pattern;
-import java.util.spi.ToolProvider;
+import javax.lang.model.element.ElementKind;
+import javax.lang.model.element.ExecutableElement;
+import javax.lang.model.element.TypeElement;
+import javax.lang.model.util.ElementFilter;
+import javax.lang.model.util.Elements;
+import javax.tools.JavaCompiler;
+import javax.tools.StandardJavaFileManager;
+import javax.tools.ToolProvider;
 
-/** Rules of LANGUAGE.md that the compiled class shows: what it calls, how deep, what it makes and where. */
-public final class RuleTest {
+/** Rules of LANGUAGE.md that the compiler sees: what the class calls, how deep, what it makes and where. */
+public final class RuleTest extends TreePathScanner<Void, Void> {
     private static final Dues DUES = new Dues("RuleTest");
+    private static final File SOURCE = new File("src/main/java/DropDealers.java");
     private static final int DEEPEST = 8;
     private static final int LONGEST = 60;
     private static final Set<String> LIBRARY = Set.of(
-        "java/lang/Object.<init>", "java/lang/String.length", "java/lang/String.charAt", "java/lang/System.arraycopy",
-        "java/util/Arrays.fill", "java/lang/Math.max", "java/lang/Math.min");
-    private static final Set<String> RULED_OUT = Set.of(
-        "athrow", "invokedynamic", "invokeinterface", "monitorenter", "checkcast", "instanceof", "jsr", "putstatic");
-    private static final Set<String> MAKERS = Set.of("new", "newarray", "anewarray", "multianewarray");
+        "java.lang.Object.<init>", "java.lang.String.length", "java.lang.String.charAt", "java.lang.System.arraycopy",
+        "java.util.Arrays.fill", "java.lang.Math.max", "java.lang.Math.min");
+    private static final Set<Kind> RULED_OUT = Set.of(
+        Kind.THROW, Kind.TRY, Kind.CATCH, Kind.SYNCHRONIZED, Kind.ASSERT, Kind.LAMBDA_EXPRESSION, Kind.MEMBER_REFERENCE,
+        Kind.INSTANCE_OF, Kind.ANNOTATION, Kind.SWITCH_EXPRESSION);
 
-    private static final Pattern CLASS = Pattern.compile("^[a-z ]*class (\\S+)(?: extends (\\S+))? \\{$");
-    private static final Pattern METHOD = Pattern.compile("^  [^ ].*?([\\w$]+)\\(.*\\);$");
-    private static final Pattern DESCRIPTOR = Pattern.compile("^    descriptor: (\\(\\S+)$");
-    private static final Pattern CODE = Pattern.compile("^ +\\d+: (\\w+).*?(?:// (?:Method (.*))?.*)?$");
-    private static final Pattern LINE = Pattern.compile("^ +line (\\d+): \\d+$");
+    private final Trees trees;
+    private final Elements elements;
+    private final CompilationUnitTree unit;
+    // Each method of the file and those that it calls, with all that may answer for them.
+    private final Map<ExecutableElement, Set<ExecutableElement>> calls = new LinkedHashMap<>();
+    private final Map<ExecutableElement, Integer> depths = new LinkedHashMap<>();
+    private final List<TypeElement> classes = new ArrayList<>();
+    private ExecutableElement inside;
 
-    /** A method of the class, as it was compiled. */
-    private static final class Body {
-        final Set<String> codes = new TreeSet<>();
-        final Set<String> calls = new TreeSet<>();
-        int firstLine = Integer.MAX_VALUE;
-        int lastLine;
+    private RuleTest(JavacTask task, CompilationUnitTree unit) {
+        this.trees = Trees.instance(task);
+        this.elements = task.getElements();
+        this.unit = unit;
+        TypeElement face = elements.getTypeElement("DropDealers");
+        classes.add(face);
+        classes.addAll(ElementFilter.typesIn(face.getEnclosedElements()));
     }
 
-    private final Map<String, String> above = new LinkedHashMap<>();
-    private final Map<String, Body> bodies = new TreeMap<>();
-    private final Map<String, Integer> depths = new TreeMap<>();
-    // Where the listing is read.
-    private String inside = "";
-    private String name = "";
-    private Body body = new Body();
-
-    public static void main(String[] args) {
-        RuleTest test = new RuleTest();
-        for (File file : classFiles()) {
-            test.read(listing(file));
+    public static void main(String[] args) throws IOException {
+        JavaCompiler compiler = ToolProvider.getSystemJavaCompiler();
+        try (StandardJavaFileManager files = compiler.getStandardFileManager(null, null, null)) {
+            List<String> options = List.of("--release", "17");
+            JavacTask task = (JavacTask) compiler.getTask(null, files, null, options, null, files.getJavaFileObjects(SOURCE));
+            CompilationUnitTree unit = task.parse().iterator().next();
+            task.analyze();
+            RuleTest test = new RuleTest(task, unit);
+            test.scan(unit, null);
+            test.found();
+            test.depth();
         }
-        test.found();
-        test.codes();
-        test.library();
-        test.depth();
         DUES.close();
     }
 
-    private static List<File> classFiles() {
-        File place = new File(System.getProperty("java.class.path").split(File.pathSeparator)[0]);
-        List<File> files = new ArrayList<>();
-        for (File file : place.listFiles()) {
-            if (file.getName().matches("DropDealers(\\$.*)?\\.class")) {
-                files.add(file);
+    private void say(String what, Tree tree, boolean so) {
+        long line = unit.getLineMap().getLineNumber(Math.max(0, trees.getSourcePositions().getStartPosition(unit, tree)));
+        DUES.holds("line " + line + ": " + what, so);
+    }
+
+    @Override
+    public Void scan(Tree tree, Void nothing) {
+        if (tree != null) {
+            say("no " + tree.getKind(), tree, !RULED_OUT.contains(tree.getKind()));
+        }
+        return super.scan(tree, nothing);
+    }
+
+    // Rule 11.
+    @Override
+    public Void visitMethod(MethodTree tree, Void nothing) {
+        long start = trees.getSourcePositions().getStartPosition(unit, tree);
+        long end = trees.getSourcePositions().getEndPosition(unit, tree);
+        if (end > start) {
+            long lines = unit.getLineMap().getLineNumber(end) - unit.getLineMap().getLineNumber(start) + 1;
+            say(tree.getName() + " is short", tree, lines <= LONGEST);
+        }
+        say(tree.getName() + " takes few", tree, tree.getParameters().size() <= 7);
+        inside = (ExecutableElement) trees.getElement(getCurrentPath());
+        calls.put(inside, new LinkedHashSet<>());
+        super.visitMethod(tree, nothing);
+        inside = null;
+        return null;
+    }
+
+    // Rule 4.
+    @Override
+    public Void visitMethodInvocation(MethodInvocationTree tree, Void nothing) {
+        TreePath name = new TreePath(getCurrentPath(), tree.getMethodSelect());
+        ExecutableElement called = (ExecutableElement) trees.getElement(name);
+        String told = called.getEnclosingElement() + "." + called.getSimpleName();
+        say("calls " + told, tree, told.startsWith("DropDealers") || LIBRARY.contains(told));
+        say("a method's call", tree, inside != null);
+        if (inside != null) {
+            calls.get(inside).add(called);
+            if (!isSuper(tree)) {
+                calls.get(inside).addAll(overriding(called));
             }
         }
-        return files;
+        return super.visitMethodInvocation(tree, nothing);
     }
 
-    private static String listing(File file) {
-        StringWriter text = new StringWriter();
-        PrintWriter out = new PrintWriter(text);
-        int failed = ToolProvider.findFirst("javap").orElseThrow().run(out, out, "-c", "-p", "-s", "-l", file.getPath());
-        DUES.due("javap of " + file, failed, 0);
-        return text.toString();
+    private static boolean isSuper(MethodInvocationTree tree) {
+        return tree.getMethodSelect() instanceof MemberSelectTree select
+            && select.getExpression().toString().equals("super");
     }
 
-    private void read(String listing) {
-        listing.lines().forEach(line -> {
-            readHead(line);
-            readBody(line);
-        });
+    private Set<ExecutableElement> overriding(ExecutableElement called) {
+        Set<ExecutableElement> all = new LinkedHashSet<>();
+        for (TypeElement type : classes) {
+            for (ExecutableElement method : ElementFilter.methodsIn(type.getEnclosedElements())) {
+                if (elements.overrides(method, called, type)) {
+                    all.add(method);
+                }
+            }
+        }
+        return all;
     }
 
-    private void readHead(String line) {
-        Matcher head = CLASS.matcher(line);
-        if (head.matches()) {
-            inside = head.group(1);
-            above.put(inside, head.group(2));
-        }
-        Matcher method = METHOD.matcher(line);
-        if (method.matches()) {
-            name = method.group(1).equals(inside) ? "<init>" : method.group(1);
-        }
-        Matcher types = DESCRIPTOR.matcher(line);
-        if (types.matches()) {
-            body = new Body();
-            bodies.put(inside + "." + name + ":" + types.group(1), body);
-        }
+    // No call makes an object: fields and constructors alone do.
+    private void madeOnce(Tree tree) {
+        say("made in a constructor", tree, inside == null || inside.getKind() == ElementKind.CONSTRUCTOR);
     }
 
-    private void readBody(String line) {
-        Matcher source = LINE.matcher(line);
-        if (source.matches()) {
-            body.firstLine = Math.min(body.firstLine, Integer.parseInt(source.group(1)));
-            body.lastLine = Math.max(body.lastLine, Integer.parseInt(source.group(1)));
-        }
-        Matcher code = CODE.matcher(line);
-        if (code.matches()) {
-            body.codes.add(code.group(1));
-        }
-        if (code.matches() && code.group(2) != null) {
-            // A class's own method is told without the class.
-            String called = code.group(2).replace("\"", "");
-            body.calls.add(called.matches("[^(:]*\\..*") ? called : inside + "." + called);
-        }
+    @Override
+    public Void visitNewClass(NewClassTree tree, Void nothing) {
+        madeOnce(tree);
+        say("no body of its own", tree, tree.getClassBody() == null);
+        return super.visitNewClass(tree, nothing);
     }
 
-    // What follows says nothing if the listing was not understood.
+    @Override
+    public Void visitNewArray(NewArrayTree tree, Void nothing) {
+        madeOnce(tree);
+        return super.visitNewArray(tree, nothing);
+    }
+
+    // Rule 6: there is no test ahead of a cast among classes here, so there is no such cast.
+    @Override
+    public Void visitTypeCast(TypeCastTree tree, Void nothing) {
+        say("a cast of numbers", tree, tree.getType().getKind() == Kind.PRIMITIVE_TYPE);
+        return super.visitTypeCast(tree, nothing);
+    }
+
+    // Rule 10.
+    @Override
+    public Void visitBinary(BinaryTree tree, Void nothing) {
+        boolean text = tree.getLeftOperand().getKind() == Kind.STRING_LITERAL
+            || tree.getRightOperand().getKind() == Kind.STRING_LITERAL;
+        say("texts are not joined", tree, !text);
+        return super.visitBinary(tree, nothing);
+    }
+
+    // Rule 9.
+    @Override
+    public Void visitForLoop(ForLoopTree tree, Void nothing) {
+        say("a loop has an end", tree, tree.getCondition() != null && !tree.getUpdate().isEmpty());
+        return super.visitForLoop(tree, nothing);
+    }
+
+    @Override
+    public Void visitWhileLoop(WhileLoopTree tree, Void nothing) {
+        say("a loop has a bound", tree, tree.getCondition().toString().contains(" < "));
+        return super.visitWhileLoop(tree, nothing);
+    }
+
+    // What the rest says means nothing if the file was not seen through.
     private void found() {
-        List<Class<?>> classes = new ArrayList<>(List.of(DropDealers.class.getDeclaredClasses()));
-        classes.add(DropDealers.class);
-        int methods = 0;
-        for (Class<?> one : classes) {
-            DUES.holds("found " + one, above.containsKey(one.getName()));
+        DUES.due("the classes", classes.size(), DropDealers.class.getDeclaredClasses().length + 1);
+        int methods = DropDealers.class.getDeclaredMethods().length + DropDealers.class.getDeclaredConstructors().length;
+        for (Class<?> one : DropDealers.class.getDeclaredClasses()) {
             methods += one.getDeclaredMethods().length + one.getDeclaredConstructors().length;
         }
-        DUES.due("the classes", above.size(), classes.size());
-        DUES.due("the methods", bodies.size(), methods);
-    }
-
-    // Rules 2, 6, 11 and 12: and objects are made in constructors alone.
-    private void codes() {
-        bodies.forEach((name, body) -> {
-            for (String code : body.codes) {
-                DUES.holds(name + " has no " + code, !RULED_OUT.contains(code));
-                DUES.holds(name + " makes nothing", !MAKERS.contains(code) || name.contains(".<init>:"));
-            }
-            DUES.holds(name + " is short", body.lastLine - body.firstLine < LONGEST);
-        });
-    }
-
-    private void library() {
-        bodies.forEach((name, body) -> {
-            for (String called : body.calls) {
-                String bare = called.substring(0, called.indexOf(':'));
-                DUES.holds(name + " calls " + bare, bare.startsWith("DropDealers") || LIBRARY.contains(bare));
-            }
-        });
+        DUES.due("the methods", calls.size(), methods);
     }
 
     // Rule 11, with the library's own calls counted.
     private void depth() {
-        for (String name : bodies.keySet()) {
-            int deep = depthOf(name, new ArrayList<>());
-            DUES.holds(name + " goes " + deep + " deep", deep <= DEEPEST);
+        int deepest = 0;
+        for (ExecutableElement method : calls.keySet()) {
+            int deep = depthOf(method, new ArrayList<>());
+            DUES.holds(method + " goes " + deep + " deep", deep <= DEEPEST);
+            deepest = Math.max(deepest, deep);
         }
-        DUES.holds("some calls are deep", depths.get("DropDealers.hill:()I") > 5);
+        DUES.holds("some calls are deep", deepest > 5);
     }
 
-    private int depthOf(String name, List<String> open) {
-        if (open.contains(name)) {
-            DUES.holds("no recursion: " + open + " " + name, false);
+    private int depthOf(ExecutableElement method, List<ExecutableElement> open) {
+        if (open.contains(method)) {
+            DUES.holds("no recursion: " + open + " " + method, false);
             return DEEPEST + 1;
         }
-        if (!depths.containsKey(name)) {
-            open.add(name);
+        if (!depths.containsKey(method)) {
+            open.add(method);
             int most = 0;
-            Body body = bodies.get(name);
-            for (String called : body == null ? Set.<String>of() : body.calls) {
-                for (String one : meant(name, called)) {
-                    most = Math.max(most, depthOf(one, open));
-                }
+            for (ExecutableElement called : calls.getOrDefault(method, Set.of())) {
+                most = Math.max(most, depthOf(called, open));
             }
-            open.remove(name);
-            depths.put(name, most + 1);
+            open.remove(method);
+            depths.put(method, most + 1);
         }
-        return depths.get(name);
-    }
-
-    // A call of a kind may be one of each kind under it, or of one above it, if it has no such body.
-    private Set<String> meant(String caller, String called) {
-        String inside = called.substring(0, called.indexOf('.'));
-        String rest = called.substring(called.indexOf('.'));
-        Set<String> all = new TreeSet<>();
-        for (String one = inside; one != null && all.isEmpty(); one = above.get(one)) {
-            if (bodies.containsKey(one + rest)) {
-                all.add(one + rest);
-            }
-        }
-        boolean upwards = caller.endsWith(rest);
-        for (String one : above.keySet()) {
-            if (!upwards && isUnder(one, inside) && bodies.containsKey(one + rest)) {
-                all.add(one + rest);
-            }
-        }
-        return all.isEmpty() ? Set.of(called) : all;
-    }
-
-    private boolean isUnder(String one, String other) {
-        boolean under = false;
-        for (String kind = one; kind != null; kind = above.get(kind)) {
-            under |= kind.equals(other);
-        }
-        return under;
+        return depths.get(method);
     }
 }
