@@ -8,6 +8,7 @@ public final class CanBeEdgeTest {
 
     public static void main(String[] args) {
         nothingIsChanged();
+        nothingOfAnotherHill();
         safeFortyAtMost();
         safeThisDayFirst();
         safeNotAheadOfItsDay();
@@ -54,6 +55,22 @@ public final class CanBeEdgeTest {
         EDGES.changesNothing("17 got", Edges::busy, x.got(12, 1, 6, 1), y -> y.got(12, 1, 6, 1));
         EDGES.changesNothing("18 tried", Edges::busy, x.tried(3, 9, -1), y -> y.tried(3, 9, -1));
         EDGES.changesNothing("18 tried", Edges::busy, x.tried(3, 9, 2), y -> y.tried(3, 9, 2));
+    }
+
+    // "Read anew: .. all as told": what was looked at on a hill with more terraces is gone
+    private static void nothingOfAnotherHill() {
+        for (int many = 1; many <= 6; many++) {
+            for (int fewer = 0; fewer <= many; fewer++) {
+                DropDealers x = Dues.told("terrace 30 0 0;".repeat(many - 1) + "terrace 0 9 0;drip 12 9;");
+                due("18 the last one's song", x.tried(3, 9, 2), many - 1);
+                due("16 the last one's drops", x.today(many - 1) > 0 ? 1 : 0, 1);
+                due("15 nothing need lack", x.least(9), 0);
+                due("14 nothing need lack", x.safe(), 12);
+                String anew = "terrace 1 3 0;".repeat(fewer) + "drip 4 2;";
+                due("4 anew", Edges.typed(x, anew).hill(), fewer + 1);
+                EDGES.alike(many + " terraces, then " + fewer, x, Dues.told(anew));
+            }
+        }
     }
 
     // "40 at most"

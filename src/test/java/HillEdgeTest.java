@@ -29,6 +29,7 @@ public final class HillEdgeTest {
         blanks();
         eachByte();
         wordsThatAreNone();
+        anotherSortOfToken();
         firstOfSeveralFaults();
         endsTooEarly();
         placesOfFaults();
@@ -370,6 +371,39 @@ public final class HillEdgeTest {
         fault("^" + "z".repeat(300));
         fault("law ^one;");
         fault("law ^law;");
+    }
+
+    // "TOKEN that can't stand there": a word, a NUMBER or ; in the stead of another sort, or a TOKEN left out
+    private static void anotherSortOfToken() {
+        String[] items = {"terrace 3 1 0 ;", "drip 4 5 ;", "law 1 ;", "slip 2 ;", "song 0 ;"};
+        String[] others = {"terrace", "drip", "law", "slip", "song", ";", "1"};
+        for (String item : items) {
+            String ahead = item.startsWith("song") ? "terrace 1 1 1;terrace 1 1 1;" : "";
+            String[] tokens = item.split(" ");
+            for (int at = 0; at < tokens.length; at++) {
+                for (String other : others) {
+                    if (!sort(other).equals(sort(tokens[at])) && !(item.startsWith("song") && other.equals("1"))) {
+                        fault(ahead + joined(tokens, 0, at) + "^" + other + " " + joined(tokens, at + 1, tokens.length));
+                    }
+                }
+                boolean next = at + 1 < tokens.length && !sort(tokens[at]).equals(sort(tokens[at + 1]));
+                if (next) {
+                    fault(ahead + joined(tokens, 0, at) + "^" + joined(tokens, at + 1, tokens.length));
+                }
+            }
+        }
+    }
+
+    private static String sort(String token) {
+        return token.replaceAll("[a-z]+", "word").replaceAll("[0-9]+", "number");
+    }
+
+    private static String joined(String[] tokens, int from, int to) {
+        StringBuilder text = new StringBuilder();
+        for (int i = from; i < to; i++) {
+            text.append(tokens[i]).append(' ');
+        }
+        return text.toString();
     }
 
     // "the first TOKEN that can't stand there"
